@@ -122,13 +122,13 @@ public final class FarCacheLine {
     }
 
     public boolean begin(int call, int deadline) {
-        Call begun = client.callAt(call);
-        if (begun == null || begun.begun || deadline < 1 || deadline > MOST_DEADLINE) {
+        Call fresh = client.callAt(call);
+        if (fresh == null || fresh.begun || deadline < 1 || deadline > MOST_DEADLINE) {
             return false;
         }
-        begun.begun = true;
-        begun.lateAt = client.clock + deadline;
-        client.open(begun);
+        fresh.begun = true;
+        fresh.lateAt = client.clock + deadline;
+        client.open(fresh);
         return true;
     }
 
@@ -210,10 +210,7 @@ public final class FarCacheLine {
 
     public int missing(int call, int i) {
         Call find = client.callAt(call);
-        if (find == null || find.kind != FIND || i < 0) {
-            return NONE;
-        }
-        return find.missingPlace(i);
+        return find == null ? NONE : find.missingPlace(i);
     }
 
     public int about(int call, int what) {
@@ -659,6 +656,7 @@ public final class FarCacheLine {
             }
         }
 
+        /** Only a find has answers, so in other calls nothing is missing. */
         int missingPlace(int i) {
             int before = 0;
             for (int place = 0; place < digestCount; place++) {
