@@ -1,16 +1,35 @@
 /** Counts the answers that are not the ones that are due, and tells them. */
 final class Due {
+    private static String test = "";
     private static int asked = 0;
+    private static int askedAhead = 0;
     private static int wrong = 0;
 
     private Due() {
     }
 
+    /** From here on till leave(), what is wrong is told with this test's name. */
+    static void enter(String name) {
+        test = name + ": ";
+        askedAhead = asked;
+    }
+
+    static void leave() {
+        if (asked == askedAhead) {
+            wrong("asks nothing");
+        }
+        test = "";
+    }
+
+    static void wrong(String what) {
+        wrong++;
+        System.out.println(test + what);
+    }
+
     static void is(String what, long got, long want) {
         asked++;
         if (got != want) {
-            wrong++;
-            System.out.println(what + " answered " + got + ", due is " + want);
+            wrong(what + " answered " + got + ", due is " + want);
         }
     }
 
@@ -22,14 +41,23 @@ final class Due {
         is(what, got ? 1 : 0, 0);
     }
 
+    /** All that can be seen of a line is as it was (see Play.look). */
+    static void same(String what, FarCacheLine x, String before) {
+        asked++;
+        String now = Play.look(x);
+        if (!now.equals(before)) {
+            wrong(what + " changed\n" + before + "\nto\n" + now);
+        }
+    }
+
     static void noByte(String what, FarCacheLine x, int call, int i) {
-        boolean thrown = false;
+        Class<?> thrown = null;
         try {
             x.got(call, i);
-        } catch (ArrayIndexOutOfBoundsException e) {
-            thrown = true;
+        } catch (RuntimeException e) {
+            thrown = e.getClass();
         }
-        yes(what + " throws", thrown);
+        yes(what + " throws", thrown == ArrayIndexOutOfBoundsException.class);
     }
 
     /** Ends the test: exit code 1 if an answer was wrong, or if none was asked for. */

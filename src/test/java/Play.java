@@ -6,8 +6,64 @@ final class Play {
     static final int ASK = 3;
     static final int TELL = 4;
     static final int ALL = 2000;
+    static final int LOW = Integer.MIN_VALUE;
+    static final int HIGH = Integer.MAX_VALUE;
 
     private Play() {
+    }
+
+    /** The numbers just outside of a range, and those furthest outside. */
+    static int[] outside(int least, int most) {
+        return new int[] {LOW, least - 1, most + 1, HIGH};
+    }
+
+    /** All that can be seen of a line, without changing it. */
+    static String look(FarCacheLine x) {
+        StringBuilder seen = new StringBuilder("counts");
+        for (int what = 0; what <= 8; what++) {
+            seen.append(' ').append(x.count(what));
+        }
+        for (int end = 0; end <= 1; end++) {
+            seen.append("; from ").append(end).append(':').append(bytesFrom(x, end));
+        }
+        return seen.append(lookAtCalls(x)).toString();
+    }
+
+    static String bytesFrom(FarCacheLine x, int end) {
+        StringBuilder seen = new StringBuilder();
+        for (int k = 0; k < x.count(end); k++) {
+            seen.append(' ').append(x.underway(end, k));
+        }
+        return seen.toString();
+    }
+
+    static String lookAtCalls(FarCacheLine x) {
+        StringBuilder seen = new StringBuilder();
+        for (int call = 0; x.end(call) != -9; call++) {
+            seen.append("; call ").append(call).append(lookAt(x, call));
+        }
+        return seen.toString();
+    }
+
+    private static String lookAt(FarCacheLine x, int call) {
+        StringBuilder seen = new StringBuilder(" end ");
+        seen.append(x.end(call)).append(" about");
+        for (int what = 0; what <= 3; what++) {
+            seen.append(' ').append(x.about(call, what));
+        }
+        seen.append(" named");
+        for (int i = 0; i <= 3; i++) {
+            seen.append(' ').append(x.named(call, i)).append(' ').append(x.missing(call, i));
+        }
+        seen.append(" got");
+        for (int i = 0; i < 60; i++) {
+            try {
+                seen.append(' ').append(x.got(call, i));
+            } catch (ArrayIndexOutOfBoundsException e) {
+                break;
+            }
+        }
+        return seen.toString();
     }
 
     /** So many bytes that differ from those of another seed. */
@@ -68,6 +124,16 @@ final class Play {
             x.carry(0, ALL);
             x.carry(1, ALL);
         }
+    }
+
+    /** A new ask of which so many frames, of 13 bytes each, are underway from the client. */
+    static int flood(FarCacheLine x, int frames) {
+        int ask = x.call(ASK, 1);
+        x.begin(ask, 100000);
+        for (int i = 1; i < frames; i++) {
+            x.resume(ask);
+        }
+        return ask;
     }
 
     static int[] frame(int number, int kind, int place, int... data) {
@@ -144,7 +210,7 @@ final class Play {
         FarCacheLine x = new FarCacheLine(40);
         int spare = write(x, bytes(60, 99));
         x.begin(spare, 100000);
-        x.cut(0, 0);
+        x.cut(13, 0);
         return x;
     }
 }
