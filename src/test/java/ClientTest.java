@@ -789,6 +789,22 @@ public final class ClientTest {
         Due.is("but it was opened ahead of that", x.count(0), 13);
     }
 
+    @Says("The CLOCK goes on tick by tick;")
+    static void termsTheClockGoesOnTickByTickForTheFirstAndTheLastCall() {
+        for (int call : new int[] {0, 29}) {
+            FarCacheLine x = new FarCacheLine(8);
+            for (int i = 0; i < 30; i++) {
+                x.call(Play.ASK, 0);
+            }
+            x.busy(1);
+            x.begin(call, 5);
+            Play.settle(x);
+            Due.is("it waits", x.about(call, 0), 1);
+            Due.is("too late by ten ticks", x.tick(10), 1);
+            Due.is("but it was opened ahead of that", x.count(0), 13);
+        }
+    }
+
     @Says("in each, by numbers, for each CALL that GOES ON:")
     static void termsInATickCallsComeByNumbers() {
         FarCacheLine x = Play.forgeable();

@@ -552,6 +552,20 @@ public final class LineTest {
         Due.is("the deadlines", x.tick(1), 3);
     }
 
+    @Says("(calls, BLOBS and all else stay).")
+    static void termsABreakLeavesNotes() {
+        FarCacheLine x = Play.forgeable();
+        Play.arrive(x, 0, Play.frameOf(9, 4, 0, 50));
+        Play.arrive(x, 0, Play.frameOf(9, 5, 0, 1));
+        x.resume(0);
+        x.lie(0, 0, 255);
+        x.carry(0, 1);
+        Due.is("a break", x.count(6), 1);
+        Play.arrive(x, 0, Play.frame(9, 6, 1));
+        Play.due("the note is there with its digest", x, 1, Play.frame(9, 11, 0));
+        Due.is("a result", x.count(5), 1);
+    }
+
     @Says("A FRAME with a number of 30 or more is nothing.")
     static void termsAFrameWithANumberOf30IsNothing() {
         FarCacheLine x = Play.forgeable();

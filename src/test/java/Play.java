@@ -39,7 +39,7 @@ final class Play {
 
     static String lookAtCalls(FarCacheLine x) {
         StringBuilder seen = new StringBuilder();
-        for (int call = 0; x.end(call) != -9; call++) {
+        for (int call = 0; call < 30 && x.end(call) != -9; call++) {
             seen.append("; call ").append(call).append(lookAt(x, call));
         }
         return seen.toString();

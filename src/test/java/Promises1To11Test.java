@@ -617,6 +617,29 @@ public final class Promises1To11Test {
         Play.due("the second one stays", y, 1, Play.frame(1, 10, 1, 0));
     }
 
+    @Says("The i-th of the FRAMES on the WAY from an END")
+    static void promise8AFrameOfAFullWayIsLost() {
+        for (int i : new int[] {0, 1, 200, 398, 399}) {
+            FarCacheLine x = new FarCacheLine(8);
+            x.begin(x.call(Play.TELL, 2), 9);
+            x.lose(0, 0);
+            for (int k = 0; k < 399; k++) {
+                x.twice(0, k);
+            }
+            x.lie(0, 5 * i + 3, 9);
+            Due.is("2000 bytes in 400 frames", x.count(0), 5 * x.count(2));
+            Due.yes("frame " + i, x.lose(0, i));
+            Due.is("399 frames", x.count(2), 399);
+            Due.is("1995 bytes", x.count(0), 1995);
+            for (int k = 0; k < 399; k++) {
+                Due.is("that one is gone", x.underway(0, 5 * k + 3), 0);
+            }
+            Due.yes("there is room for one in its place", x.twice(0, 398));
+            Due.is("400 frames", x.count(2), 400);
+            Due.is("all arrive", x.carry(0, HIGH), 2000);
+        }
+    }
+
     @Says("of which nothing has arrived is lost;")
     static void promise8AFrameThatHasArrivedInPartIsNotLost() {
         int[][] frames = framesOfTheTell();
@@ -712,6 +735,30 @@ public final class Promises1To11Test {
         Due.is("whole", x.count(6), 0);
         x.carry(1, HIGH);
         Due.is("done", x.end(tell), 1);
+    }
+
+    @Says("It comes once more, right behind itself: true")
+    static void promise9LongAndShortFramesAreToldApartInsideAFullWay() {
+        FarCacheLine x = new FarCacheLine(8);
+        int tell = x.call(Play.TELL, 2);
+        x.begin(tell, 9);
+        for (int i = 1; i < 111; i++) {
+            x.resume(tell);
+        }
+        x.carry(0, 13);
+        Due.is("short and long by turns", x.count(0), 5 + 110 * 18);
+        Due.yes("the first short one comes once more", x.twice(0, 0));
+        int left = 10 + 110 * 18;
+        int[] sizes = {5, 5, 13, 5, 13, 5};
+        for (int size : sizes) {
+            Due.is("bytes", x.count(0), left);
+            Due.is("the first one's length", x.underway(0, 0), size - 1);
+            Due.yes("it is lost", x.lose(0, 0));
+            left -= size;
+        }
+        Due.is("bytes", x.count(0), left);
+        Due.is("all arrive", x.carry(0, HIGH), left);
+        Due.is("whole", x.count(6), 0);
     }
 
     @Says("(also if there is no room for it, and it doesn't);")
