@@ -205,7 +205,10 @@ final class Play {
         Due.is("bytes of a forged frame", x.carry(end, ALL), size);
     }
 
-    /** A new line on which frames can be forged by arrive(): call 0 is a write that goes on. */
+    /**
+     * A new line on which frames can be forged by arrive(): call 0 is a write of 60 bytes that goes
+     * on; the server has its partial, empty.
+     */
     static FarCacheLine forgeable() {
         FarCacheLine x = new FarCacheLine(40);
         int spare = write(x, bytes(60, 99));

@@ -28,13 +28,6 @@ public final class ServerTest {
         answers("its bytes", x, Play.frame(9, 7, 0, row));
     }
 
-    /** Whether call 9 has a partial of so many bytes: without one, kind 8 is nothing. */
-    private static void partialHas(String what, FarCacheLine x, int size) {
-        Play.arrive(x, 0, Play.frameOf(9, 1, 0, 0x7777));
-        Play.due(what, x, 1, Play.frame(9, 12, size));
-        x.cut(0, 0);
-    }
-
     private static void store(FarCacheLine x, int... row) {
         partial(x, Play.digest(row), row);
         answers("a blob", x, Play.frame(9, 8, row.length), DONE);
@@ -228,7 +221,7 @@ public final class ServerTest {
         answers("a write of it is done", x, Play.frameOf(9, 1, 7, digest), DONE);
         answers("its partial went", x, Play.frame(9, 8, 1));
         answers("without a partial too", x, Play.frameOf(9, 1, 0, digest), DONE);
-        partialHas("a new one is empty", x, 0);
+        answers("a new one is empty", x, Play.frameOf(9, 1, 0, 1), Play.frame(9, 12, 0));
     }
 
     @Says("else KIND 12, PLACE how many bytes its PARTIAL has")
@@ -429,7 +422,6 @@ public final class ServerTest {
     static void termsAReadIsAnsweredFromItsPlaceOn() {
         FarCacheLine x = Play.forgeable();
         int[] row = Play.bytes(45, 2);
-        x.cut(0, 0);
         Play.stored(x, row);
         int[] end = Play.frame(9, 8, 45);
         answers("all", x, Play.frameOf(9, 2, 0, Play.digest(row)),
