@@ -671,7 +671,7 @@ public final class FarCacheLine {
         }
 
         void takeAnswer(int place, boolean there) {
-            if (place >= digestCount || answers[place] != NOT_ANSWERED) {
+            if (place < 0 || place >= digestCount || answers[place] != NOT_ANSWERED) {
                 return;
             }
             answers[place] = there ? ANSWERED_THERE : ANSWERED_MISSING;
@@ -1011,7 +1011,10 @@ public final class FarCacheLine {
 
         void act(Inbox frame) {
             int number = frame.number();
-            if (number >= MOST_CALLS || frame.kind() <= FRAME_DIGEST && !frame.hasNumber()) {
+            if (number < 0 || number >= MOST_CALLS) {
+                return;
+            }
+            if (frame.kind() <= FRAME_DIGEST && !frame.hasNumber()) {
                 return;
             }
             switch (frame.kind()) {

@@ -1,7 +1,5 @@
 import java.io.IOException;
 import java.lang.reflect.Method;
-import java.nio.file.Files;
-import java.nio.file.Path;
 import java.util.ArrayList;
 import java.util.Arrays;
 import java.util.LinkedHashMap;
@@ -12,11 +10,11 @@ import java.util.regex.Pattern;
 
 /**
  * Goes through the document: the words that stand beside each test stand in the part that its name
- * tells, and of the Terms and the promises no word is without a test beside it.
+ * tells, and no word of what it is, of the Terms or of a promise is without a test beside it. (The
+ * face is the matter of FaceTest.)
  */
 public final class DocTest {
-    private static final Path DOCUMENT = Path.of("../shared/DOC.md");
-    private static final Class<?>[] TESTS = {LineTest.class, ServerTest.class, ClientTest.class,
+    private static final Class<?>[] TESTS = {WholeTest.class, LineTest.class, ServerTest.class, ClientTest.class,
         Promises1To11Test.class, Promises12To21Test.class};
     private static final Pattern PART = Pattern.compile("whatItIs|terms|promise\\d+");
     private static final int PROMISES = 21;
@@ -65,7 +63,7 @@ public final class DocTest {
     }
 
     public static void main(String[] args) throws IOException {
-        Map<String, Part> parts = partsOf(Files.readString(DOCUMENT));
+        Map<String, Part> parts = partsOf(Doc.sections());
         for (Class<?> tests : TESTS) {
             for (Method test : Suite.testsOf(tests)) {
                 Due.enter(test.getName());
@@ -73,6 +71,7 @@ public final class DocTest {
                 Due.leave();
             }
         }
+        allIsTested("whatItIs", parts);
         allIsTested("terms", parts);
         for (int promise = 1; promise <= PROMISES; promise++) {
             allIsTested("promise" + promise, parts);
@@ -106,12 +105,9 @@ public final class DocTest {
         }
     }
 
-    private static Map<String, Part> partsOf(String document) {
+    private static Map<String, Part> partsOf(Map<String, String> sections) {
         Map<String, Part> parts = new LinkedHashMap<>();
-        for (String section : document.split("(?m)^## ")) {
-            int end = section.indexOf('\n');
-            String heading = section.substring(0, end);
-            String text = section.substring(end);
+        sections.forEach((heading, text) -> {
             if (heading.equals("What it is")) {
                 parts.put("whatItIs", new Part(text));
             } else if (heading.equals("Terms")) {
@@ -120,7 +116,7 @@ public final class DocTest {
                 String number = heading.substring("Promise ".length(), heading.indexOf(':'));
                 parts.put("promise" + number, new Part(withoutSignature(text)));
             }
-        }
+        });
         return parts;
     }
 

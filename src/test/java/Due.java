@@ -33,6 +33,13 @@ final class Due {
         }
     }
 
+    static void is(String what, String got, String want) {
+        asked++;
+        if (!got.equals(want)) {
+            wrong(what + " answered " + got + ", due is " + want);
+        }
+    }
+
     static void yes(String what, boolean got) {
         is(what, got ? 1 : 0, 1);
     }

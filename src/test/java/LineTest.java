@@ -12,21 +12,6 @@ public final class LineTest {
         Suite.run(LineTest.class);
     }
 
-    @Says("An object is used for at most 512 calls after it has been made;")
-    static void whatItIsFor512Calls() {
-        FarCacheLine x = new FarCacheLine(8);
-        int calls = 0;
-        for (int i = 0; i < 30; i++) {
-            Due.is("a call", x.call(Play.ASK, i), i);
-            Due.yes("is begun", x.begin(i, 9));
-            calls += 2;
-        }
-        for (; calls < 511; calls++) {
-            Due.is("is resumed", x.resume(calls % 30), 0);
-        }
-        Due.is("the 512th call", x.carry(0, Play.HIGH), 153 * 13);
-    }
-
     @Says("BYTES are 0 .. 255.")
     static void termsBytesAreFrom0To255() {
         int[] row = {0, 255, 128, 127, 1};
